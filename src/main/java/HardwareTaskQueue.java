@@ -391,8 +391,6 @@ public final class HardwareTaskQueue {
                 if (cores > 0) {
                     homes[t] = homes[t] % cores;
                 }
-                ranOn[t] = NONE;
-                doneTimes[t] = NONE;
             }
         }
 
@@ -715,32 +713,28 @@ public final class HardwareTaskQueue {
         private void startTasks() {
             for (int c = 0; c < cores.total; c++) {
                 if (!cores.paused[c] && cores.current[c] < 0) {
-                    int own = cores.takeAt(c, 0);
-                    if (own >= 0) {
-                        startTask(c, own, 0);
-                    } else {
-                        stealTask(c);
-                    }
+                    startTask(c);
                 }
             }
         }
 
-        private void stealTask(int core) {
-            int victim = cores.longestQueue();
-            int task = cores.takeAt(victim, cores.sizes[victim] - 1);
-            if (task >= 0) {
-                cores.stolen[core]++;
-                startTask(core, task, cores.stealCost);
+        private void startTask(int core) {
+            boolean stealing = cores.sizes[core] == 0;
+            int source = stealing ? cores.longestQueue() : core;
+            int task = cores.takeAt(source, stealing ? cores.sizes[source] - 1 : 0);
+            if (task < 0) {
+                return;
             }
-        }
-
-        private void startTask(int core, int task, int extra) {
             int length = formula.lengthFor(
                     tasks.durations[task], tasks.priorities[task], core, cores.sizes[core]);
             tasks.states[task] = RUNNING;
             tasks.ranOn[task] = core;
             cores.current[core] = task;
-            cores.timesLeft[core] = length + extra;
+            cores.timesLeft[core] = length;
+            if (stealing) {
+                cores.timesLeft[core] += cores.stealCost;
+                cores.stolen[core]++;
+            }
         }
     }
 

@@ -274,6 +274,15 @@ public final class ChangeTest {
             due = 31 * due + number;
         }
         Check.equal("checksum", q.checksum(), due);
+        q.undo();
+        q.pause(1, true);
+        q.run(1);
+        due = 0;
+        for (long number : new long[] {1, 0, 2, 3, 0, 2, 4, 0, 2, 5, 0, 0, 6, 1,
+            -1, 0, 0, 0, 2, 1, 0, -1, 0, 0, 0}) {
+            due = 31 * due + number;
+        }
+        Check.equal("checksum with a queue of three", q.checksum(), due);
         HardwareTaskQueue thief = Check.queue(1, "queue 2 8 2;task 5 3 core 1;");
         thief.run(1);
         due = 0;

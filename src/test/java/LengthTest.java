@@ -37,6 +37,8 @@ public final class LengthTest {
         length("10-2*3+4/2-1", 5);
         length("10 - ( 2 * ( 3 + ( 4 / ( 2 ) ) ) ) + 5", 5);
         length("((((duration))))*2", 14);
+        length("1+2*(1+2*(1+2*(1+2*(1+2*3))))", 127);
+        length("((((3*2+1)*2+1)*2+1)*2+1)*2+1", 127);
         // Division truncates toward zero: -7 / 2 is -3.
         length("10+(0-7)/2", 7);
         length("10+7/(0-2)", 7);

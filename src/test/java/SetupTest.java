@@ -180,6 +180,13 @@ public final class SetupTest {
         error(Q + "fence 1;", SYNTAX, 18);
         error(Q + "fence fence;", SYNTAX, 18);
         error(Q + "fencetask;", SYNTAX, 12);
+        error(Q + "fencez;", SYNTAX, 12);
+        error(Q + "fence{;", SYNTAX, 17);
+        error(Q + "fence`;", SYNTAX, 17);
+        error(Q + "hence;", SYNTAX, 12);
+        error(Q + "bask 1 1;", SYNTAX, 12);
+        error(Q + "task 1: 1;", SYNTAX, 18);
+        error(Q + "task 1/ 1;", SYNTAX, 18);
         error(Q + "task 1 1;".repeat(31) + "task 1 1 after 31;", RANGE, 12 + 279 + 15);
     }
 

@@ -9,6 +9,7 @@ public final class ChangeTest {
         submit();
         depend();
         cancel();
+        cancelInFullQueues();
         setPriority();
         pause();
         undoOfEach();
@@ -129,6 +130,25 @@ public final class ChangeTest {
         Check.equal("its counter is still told", w.counter(1), 1);
         w.run(10);
         Check.equal("it stays cancelled", w.state(1), CANCELLED);
+    }
+
+    private static void cancelInFullQueues() {
+        HardwareTaskQueue q = Check.queue(32, "queue 4 8 0;" + "task 9 1;".repeat(32));
+        for (int core = 0; core < 4; core++) {
+            q.pause(core, true);
+        }
+        q.run(1);
+        for (int task : new int[] {3, 31, 15, 0, 28, 17}) {
+            Check.equal("cancel(" + task + ")", q.cancel(task), QUEUED);
+        }
+        int[][] due = {{4, 8, 12, 16, 20, 24}, {1, 5, 9, 13, 21, 25, 29},
+            {2, 6, 10, 14, 18, 22, 26, 30}, {7, 11, 19, 23, 27}};
+        for (int core = 0; core < 4; core++) {
+            Check.equal("queueLength(" + core + ")", q.queueLength(core), due[core].length);
+            for (int k = 0; k < q.queueLength(core) && k < due[core].length; k++) {
+                Check.equal("queued(" + core + ", " + k + ")", q.queued(core, k), due[core][k]);
+            }
+        }
     }
 
     private static void setPriority() {

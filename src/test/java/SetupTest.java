@@ -242,9 +242,11 @@ public final class SetupTest {
 
     /** A load puts new data in the place of all old ones; an error changes none. */
     private static void loadReplaces() {
-        HardwareTaskQueue q = Check.queue(3, "queue 3 2 1;task 9 1;fence;task 9 2;task 9 3;length 50;");
+        HardwareTaskQueue q = Check.queue(6, "queue 3 8 1;task 9 1 core 1;task 9 1 core 1;"
+                + "task 9 1 core 1;task 9 1 core 1;fence;task 9 2;task 9 3;length 50;");
         q.pause(1, true);
         q.run(4);
+        Check.equal("a prediction", q.finishTime(5), -1);
         long sum = q.checksum();
         Check.equal("an error", Check.load(q, "queue 1 1 1;task 1 1;task 1 1 after 7;"), RANGE);
         Check.equal("errorOffset", q.errorOffset(), 36);

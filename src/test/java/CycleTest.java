@@ -24,61 +24,41 @@ public final class CycleTest {
         Check.end();
     }
 
-    private static void queue(HardwareTaskQueue q, int core, int... tasks) {
-        Check.equal("queueLength(" + core + ")", q.queueLength(core), tasks.length);
-        for (int k = 0; k < tasks.length && k < q.queueLength(core); k++) {
-            Check.equal("queued(" + core + ", " + k + ")", q.queued(core, k), tasks[k]);
-        }
-    }
-
-    private static void states(HardwareTaskQueue q, int... due) {
-        for (int t = 0; t < due.length; t++) {
-            Check.equal("state(" + t + ") at " + q.clock(), q.state(t), due[t]);
-        }
-    }
-
-    private static void core(HardwareTaskQueue q, int core, int... due) {
-        Check.equal("running(" + core + ")", q.running(core), due[0]);
-        Check.equal("remaining(" + core + ")", q.remaining(core), due[1]);
-        Check.equal("busy(" + core + ")", q.busy(core), due[2]);
-        Check.equal("steals(" + core + ")", q.steals(core), due[3]);
-    }
-
     private static void oneTask() {
         HardwareTaskQueue q = Check.queue(1, "queue 1 1 20;task 3 5;");
-        states(q, WAITING);
-        core(q, 0, -1, 0, 0, 0);
+        Expect.states(q, WAITING);
+        Expect.core(q, 0, -1, 0, 0, 0);
         Check.equal("priority", q.priority(0), 5);
         Check.equal("run 1", q.run(1), 0);
-        states(q, RUNNING);
-        core(q, 0, 0, 3, 1, 0);
+        Expect.states(q, RUNNING);
+        Expect.core(q, 0, 0, 3, 1, 0);
         Check.equal("coreOf", q.coreOf(0), 0);
         Check.equal("doneAt", q.doneAt(0), -1);
         Check.equal("run 2", q.run(2), 0);
-        core(q, 0, 0, 1, 3, 0);
+        Expect.core(q, 0, 0, 1, 3, 0);
         Check.equal("finished", q.finished(), 0);
         Check.equal("run 3", q.run(1), 1);
-        states(q, DONE);
-        core(q, 0, -1, 0, 3, 0);
+        Expect.states(q, DONE);
+        Expect.core(q, 0, -1, 0, 3, 0);
         Check.equal("doneAt then", q.doneAt(0), 3);
         Check.equal("coreOf then", q.coreOf(0), 0);
         Check.equal("finished then", q.finished(), 1);
         Check.equal("clock then", q.clock(), 4);
         Check.equal("run 200", q.run(200), 0);
         Check.equal("clock at last", q.clock(), 204);
-        core(q, 0, -1, 0, 3, 0);
+        Expect.core(q, 0, -1, 0, 3, 0);
     }
 
     private static void orderOfPriorities() {
         HardwareTaskQueue q = Check.queue(5,
                 "queue 1 8 0;task 2 0;task 2 3;task 2 3;task 1 9;task 2 4;");
         Check.equal("run", q.run(1), 0);
-        states(q, QUEUED, QUEUED, QUEUED, RUNNING, QUEUED);
-        queue(q, 0, 4, 1, 2, 0);
+        Expect.states(q, QUEUED, QUEUED, QUEUED, RUNNING, QUEUED);
+        Expect.queue(q, 0, 4, 1, 2, 0);
         // The task that ends in a cycle makes room for the next one in the same cycle.
         Check.equal("run", q.run(1), 1);
-        core(q, 0, 4, 2, 2, 0);
-        queue(q, 0, 1, 2, 0);
+        Expect.core(q, 0, 4, 2, 2, 0);
+        Expect.queue(q, 0, 1, 2, 0);
         Check.equal("the rest", q.run(8), 4);
         Check.equal("doneAt 3", q.doneAt(3), 1);
         Check.equal("doneAt 4", q.doneAt(4), 3);
@@ -96,21 +76,21 @@ public final class CycleTest {
         }
         Check.equal("run", q.run(1), 0);
         // Task 3 goes to core 2, the shortest; 4 to core 1, the smaller of two with one task.
-        queue(q, 0, 1, 2);
-        queue(q, 1, 0, 4);
-        queue(q, 2, 3, 5);
-        states(q, QUEUED, QUEUED, QUEUED, QUEUED, QUEUED, QUEUED, READY, READY);
-        core(q, 0, -1, 0, 0, 0);
+        Expect.queue(q, 0, 1, 2);
+        Expect.queue(q, 1, 0, 4);
+        Expect.queue(q, 2, 3, 5);
+        Expect.states(q, QUEUED, QUEUED, QUEUED, QUEUED, QUEUED, QUEUED, READY, READY);
+        Expect.core(q, 0, -1, 0, 0, 0);
         q.pause(1, false);
         q.run(1);
-        core(q, 1, 0, 9, 1, 0);
-        queue(q, 1, 4);
-        states(q, RUNNING, QUEUED, QUEUED, QUEUED, QUEUED, QUEUED, READY, READY);
+        Expect.core(q, 1, 0, 9, 1, 0);
+        Expect.queue(q, 1, 4);
+        Expect.states(q, RUNNING, QUEUED, QUEUED, QUEUED, QUEUED, QUEUED, READY, READY);
         // In the next cycle the READY task with the greater priority gets the place.
         q.run(1);
-        queue(q, 1, 4, 6);
-        queue(q, 2, 3, 5);
-        states(q, RUNNING, QUEUED, QUEUED, QUEUED, QUEUED, QUEUED, QUEUED, READY);
+        Expect.queue(q, 1, 4, 6);
+        Expect.queue(q, 2, 3, 5);
+        Expect.states(q, RUNNING, QUEUED, QUEUED, QUEUED, QUEUED, QUEUED, QUEUED, READY);
     }
 
     /** Without core the home core is the index of the task modulo the number of cores. */
@@ -121,9 +101,9 @@ public final class CycleTest {
             q.pause(c, true);
         }
         q.run(1);
-        queue(q, 0, 0, 1, 3);
-        queue(q, 1, 4);
-        queue(q, 2, 2, 5);
+        Expect.queue(q, 0, 0, 1, 3);
+        Expect.queue(q, 1, 4);
+        Expect.queue(q, 2, 2, 5);
     }
 
     private static void stealing() {
@@ -132,24 +112,24 @@ public final class CycleTest {
                 + "task 7 0 core 3;");
         q.run(1);
         // Core 0 steals from core 1, the smaller of the two longest.
-        core(q, 0, 2, 10, 1, 1);
-        core(q, 1, 0, 1, 1, 0);
-        core(q, 2, 3, 4, 1, 0);
-        core(q, 3, 6, 7, 1, 0);
-        queue(q, 1, 1);
-        queue(q, 2, 4, 5);
+        Expect.core(q, 0, 2, 10, 1, 1);
+        Expect.core(q, 1, 0, 1, 1, 0);
+        Expect.core(q, 2, 3, 4, 1, 0);
+        Expect.core(q, 3, 6, 7, 1, 0);
+        Expect.queue(q, 1, 1);
+        Expect.queue(q, 2, 4, 5);
         Check.equal("coreOf(2)", q.coreOf(2), 0);
         Check.equal("run(2)", q.run(2), 1);
-        core(q, 1, 1, 1, 3, 0);
+        Expect.core(q, 1, 1, 1, 3, 0);
         Check.equal("run(1)", q.run(1), 1);
         // Core 1 has nothing left and steals the last task of core 2.
-        core(q, 1, 5, 13, 4, 1);
-        queue(q, 2, 4);
+        Expect.core(q, 1, 5, 13, 4, 1);
+        Expect.queue(q, 2, 4);
         Check.equal("run(1)", q.run(1), 1);
-        core(q, 2, 4, 5, 5, 0);
+        Expect.core(q, 2, 4, 5, 5, 0);
         Check.equal("run(200)", q.run(200), 4);
-        core(q, 0, -1, 0, 10, 1);
-        core(q, 3, -1, 0, 7, 0);
+        Expect.core(q, 0, -1, 0, 10, 1);
+        Expect.core(q, 3, -1, 0, 7, 0);
     }
 
     private static void stealingFromPaused() {
@@ -157,21 +137,21 @@ public final class CycleTest {
                 "queue 2 8 3;task 5 0 core 1;task 5 0 core 1;task 5 0 core 1;");
         q.pause(1, true);
         q.run(1);
-        core(q, 0, 2, 8, 1, 1);
-        core(q, 1, -1, 0, 0, 0);
-        queue(q, 1, 0, 1);
+        Expect.core(q, 0, 2, 8, 1, 1);
+        Expect.core(q, 1, -1, 0, 0, 0);
+        Expect.queue(q, 1, 0, 1);
         Check.equal("run", q.run(8), 1);
-        core(q, 0, 1, 8, 9, 2);
-        queue(q, 1, 0);
+        Expect.core(q, 0, 1, 8, 9, 2);
+        Expect.queue(q, 1, 0);
     }
 
     /** A smaller core is treated first, also when it takes away what a greater one would run. */
     private static void stealingBeforeTheOwner() {
         HardwareTaskQueue q = Check.queue(2, "queue 3 8 4;task 2 0 core 2;task 2 0 core 2;");
         q.run(1);
-        core(q, 0, 1, 6, 1, 1);
-        core(q, 1, 0, 6, 1, 1);
-        core(q, 2, -1, 0, 0, 0);
+        Expect.core(q, 0, 1, 6, 1, 1);
+        Expect.core(q, 1, 0, 6, 1, 1);
+        Expect.core(q, 2, -1, 0, 0, 0);
         Check.equal("coreOf(0)", q.coreOf(0), 1);
         Check.equal("run", q.run(6), 2);
         Check.equal("doneAt(0)", q.doneAt(0), 6);
@@ -184,14 +164,14 @@ public final class CycleTest {
         Check.equal("counter(2)", q.counter(2), 2);
         Check.equal("counter(3)", q.counter(3), 2);
         q.run(3);
-        states(q, DONE, RUNNING, WAITING, WAITING);
+        Expect.states(q, DONE, RUNNING, WAITING, WAITING);
         Check.equal("counter(2)", q.counter(2), 1);
         Check.equal("counter(3)", q.counter(3), 1);
         Check.equal("run", q.run(2), 1);
-        states(q, DONE, DONE, RUNNING, WAITING);
+        Expect.states(q, DONE, DONE, RUNNING, WAITING);
         Check.equal("counter(2)", q.counter(2), 0);
         Check.equal("run", q.run(1), 1);
-        states(q, DONE, DONE, DONE, RUNNING);
+        Expect.states(q, DONE, DONE, DONE, RUNNING);
         Check.equal("run", q.run(1), 1);
         Check.equal("finished", q.finished(), 4);
     }
@@ -205,7 +185,7 @@ public final class CycleTest {
         Check.equal("counter(2)", q.counter(2), 4);
         Check.equal("isOpen(0)", q.isOpen(0), false);
         q.run(2);
-        states(q, DONE, RUNNING, WAITING);
+        Expect.states(q, DONE, RUNNING, WAITING);
         Check.equal("isOpen(0)", q.isOpen(0), true);
         Check.equal("isOpen(1)", q.isOpen(1), false);
         Check.equal("isOpen(2)", q.isOpen(2), false);
@@ -213,7 +193,7 @@ public final class CycleTest {
         Check.equal("submit", q.submit(1, 1, 0), 3);
         Check.equal("counter(3)", q.counter(3), 2);
         Check.equal("run", q.run(3), 1);
-        states(q, DONE, DONE, RUNNING, RUNNING);
+        Expect.states(q, DONE, DONE, RUNNING, RUNNING);
         Check.equal("isOpen(2)", q.isOpen(2), true);
         Check.equal("counter(3)", q.counter(3), 0);
     }
@@ -241,13 +221,13 @@ public final class CycleTest {
         Check.equal("pause", q.pause(0, true), false);
         Check.equal("isPaused", q.isPaused(0), true);
         Check.equal("run", q.run(5), 1);
-        states(q, DONE, QUEUED);
-        core(q, 0, -1, 0, 2, 0);
+        Expect.states(q, DONE, QUEUED);
+        Expect.core(q, 0, -1, 0, 2, 0);
         Check.equal("pause again", q.pause(0, true), true);
         Check.equal("go on", q.pause(0, false), true);
         Check.equal("isPaused", q.isPaused(0), false);
         q.run(1);
-        core(q, 0, 1, 2, 3, 0);
+        Expect.core(q, 0, 1, 2, 3, 0);
     }
 
     private static void wrongIndexes() {
@@ -256,7 +236,7 @@ public final class CycleTest {
         q.pause(1, true);
         q.pause(2, true);
         q.run(1);
-        queue(q, 0, 0);
+        Expect.queue(q, 0, 0);
         int[] none = {-1, 3, 4, 32, 33, Integer.MAX_VALUE, Integer.MIN_VALUE};
         for (int i : none) {
             Check.index("state", () -> q.state(i));

@@ -5,12 +5,18 @@ import java.util.Arrays;
 final class Check {
     private static int wrong = 0;
     private static int made = 0;
+    private static String sentence = "";
 
     private Check() {
     }
 
     interface Call {
         void make();
+    }
+
+    /** The document's sentence that the following answers are due by; reports name it. */
+    static void about(String words) {
+        sentence = words;
     }
 
     static void equal(String what, long got, long due) {
@@ -22,6 +28,18 @@ final class Check {
 
     static void equal(String what, boolean got, boolean due) {
         equal(what, got ? 1 : 0, due ? 1 : 0);
+    }
+
+    static void equal(String what, String got, String due) {
+        made++;
+        if (!got.equals(due)) {
+            int from = Math.max(0, Arrays.mismatch(got.getBytes(), due.getBytes()) - 20);
+            report(what + " is not as due: .." + part(got, from) + ", due is .." + part(due, from));
+        }
+    }
+
+    private static String part(String text, int from) {
+        return text.substring(Math.min(from, text.length()), Math.min(from + 60, text.length()));
     }
 
     /** The exception's own class is compared, so that one of the machine's is not taken for it. */
@@ -52,7 +70,7 @@ final class Check {
     private static void report(String line) {
         wrong++;
         if (wrong <= 50) {
-            System.out.println(line);
+            System.out.println(sentence.isEmpty() ? line : line + "  [" + sentence + "]");
         }
     }
 

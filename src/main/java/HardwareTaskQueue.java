@@ -518,7 +518,7 @@ public final class HardwareTaskQueue {
 
         /** The queue that takes a task of this home core; NONE if all queues are full. */
         int queueFor(int home) {
-            if (home < total && sizes[home] < capacity) {
+            if (home >= 0 && home < total && sizes[home] < capacity) {
                 return home;
             }
             int shortest = NONE;

@@ -16,6 +16,8 @@ public final class EdgeLengthTest {
         limitedQuotients();
         eachOperation();
         withoutLength();
+        smallestNumber();
+        deepest();
         Check.end();
     }
 
@@ -221,6 +223,29 @@ public final class EdgeLengthTest {
         length("(5000*200+5000*200)/4000", 250);
         // A number is no operation, and 9999 is within the range.
         length("9999/11", 909);
+    }
+
+    private static void smallestNumber() {
+        Check.about("A number as a factor is 0 to 9999.");
+        for (int number : new int[] {0, 1}) {
+            HardwareTaskQueue q = Check.queue(8,
+                    "queue 1 8 0;" + "task 9 5;".repeat(8) + "length 10+" + number + ";");
+            q.run(1);
+            Check.equal("it is no word's value", q.remaining(0), 10 + number);
+        }
+        length("9999-9998", 1);
+        length("9999-9990", 9);
+    }
+
+    /** On each level a sum and a product wait for what stands in the parentheses. */
+    private static void deepest() {
+        Check.about("Parentheses nest at most 4 deep.");
+        length("1+2*(1+2*(1+2*(1+2*3)))", 63);
+        length("1+2*(1+2*(1+2*(1+2*(1+2*3))))", 127);
+        length("((((3*2+1)*2+1)*2+1)*2+1)*2+1", 127);
+        length("1+2*(1+2*(1+2*(1+2*(1+2*3))))+1+2*(1+2*(1+2*(1+2*(1+2*3))))", 254);
+        length("900-2*(100-2*(50-2*(20-2*(7-2*3))))", 900 - 2 * (100 - 2 * (50 - 2 * 18)));
+        length("900-512/(2*(64/(2*3)))", 875);
     }
 
     private static void withoutLength() {

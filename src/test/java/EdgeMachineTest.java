@@ -321,6 +321,12 @@ public final class EdgeMachineTest {
             q.cancel(done);
         }
         Check.equal("isOpen of the last", q.isOpen(3), true);
+        HardwareTaskQueue full = Check.queue(32, "queue 1 8 0;" + "task 1 1;".repeat(32) + "fence;");
+        for (int t = 31; t >= 0; t--) {
+            Check.equal("isOpen with task " + t + " and those before", full.isOpen(0), false);
+            full.cancel(t);
+        }
+        Check.equal("isOpen with none", full.isOpen(0), true);
     }
 
     private static void clock() {

@@ -16,6 +16,7 @@ public final class EdgeTextTest {
         sumRule();
         runsOfDigits();
         runsOfLetters();
+        eachLetter();
         spaces();
         noOtherSeparator();
         numbersOfQueue();
@@ -176,6 +177,30 @@ public final class EdgeTextTest {
         bad(Q + "fencez;", SYNTAX, 12);
         bad("aqueue 1 1 1;", SYNTAX, 0);
         bad("queuez 1 1 1;", SYNTAX, 0);
+    }
+
+    /** Each letter of each word of the grammar, replaced by the next one and left out. */
+    private static void eachLetter() {
+        Check.about("A number is a run of decimal digits; a word is a run of the letters a to z.");
+        String[][] words = {{"", "queue", " 2 8 1;"}, {Q, "task", " 1 1;"}, {Q, "fence", ";"},
+            {Q, "length", " 1;"}, {Q + "task 1 1 ", "core", " 1;"},
+            {Q + "task 1 1;task 1 1 ", "after", " 0;"}, {Q + "length ", "duration", ";"},
+            {Q + "length ", "priority", ";"}, {Q + "length ", "core", ";"},
+            {Q + "length ", "load", ";"}};
+        for (String[] parts : words) {
+            String word = parts[1];
+            int offset = parts[0].length();
+            Check.equal("load with " + word,
+                    Check.load(new HardwareTaskQueue(), parts[0] + word + parts[2]) >= 0, true);
+            for (int i = 0; i < word.length(); i++) {
+                String before = parts[0] + word.substring(0, i);
+                String behind = word.substring(i + 1) + parts[2];
+                bad(before + (char) (word.charAt(i) - 1) + behind, SYNTAX, offset);
+                bad(before + (char) (word.charAt(i) + 1) + behind, SYNTAX, offset);
+                bad(before + behind, SYNTAX, offset);
+                bad(before + word.charAt(i) + word.charAt(i) + behind, SYNTAX, offset);
+            }
+        }
     }
 
     /** With no space but those that keep runs apart, and with one and three before each token. */

@@ -16,6 +16,8 @@ public final class EdgeUndoTest {
         beforeFirstLoad();
         inputNotAffected();
         eachIsUndoneWhole();
+        crowdedIsUndone();
+        throwsChangeNothing();
         emptyChecksum();
         orderOfChecksum();
         overflowOfChecksum();
@@ -225,6 +227,42 @@ public final class EdgeUndoTest {
             busy.undo();
             Check.equal("a later run is undone alone", Twins.sight(busy), between);
         }
+    }
+
+    private static void crowdedIsUndone() {
+        Check.about("Undoes the latest change that has not been undone.");
+        HardwareTaskQueue q = Makers.crowded();
+        String before = Twins.sight(q);
+        for (int task = 0; task < 8; task++) {
+            q.cancel(31 - 4 * task);
+        }
+        for (int left = 7; left >= 0; left--) {
+            Check.equal("undo", q.undo(), left);
+        }
+        Check.equal("all queues are full again", Twins.sight(q), before);
+        q.pause(3, false);
+        q.run(200);
+        q.undo();
+        q.undo();
+        Check.equal("all are in their queues again", Twins.sight(q), before);
+        Check.equal("finishTime", q.finishTime(500), -1);
+    }
+
+    private static void throwsChangeNothing() {
+        Check.about("A method that throws an exception changes nothing.");
+        Twins.Maker maker = Makers::crowded;
+        Twins.argument("load", maker, q -> q.load(1));
+        Twins.index("state", maker, q -> q.state(32));
+        Twins.index("isOpen", maker, q -> q.isOpen(0));
+        Twins.index("queued", maker, q -> q.queued(3, 8));
+        Twins.argument("finishTime", maker, q -> q.finishTime(501));
+        Twins.argument("timeOn", maker, q -> q.timeOn(5, 500));
+        Twins.argument("run", maker, q -> q.run(201));
+        Twins.state("submit", maker, q -> q.submit(1, 1, 3));
+        Twins.state("depend", maker, q -> q.depend(31, 30));
+        Twins.index("cancel", maker, q -> q.cancel(32));
+        Twins.argument("setPriority", maker, q -> q.setPriority(31, 10));
+        Twins.index("pause", maker, q -> q.pause(4, false));
     }
 
     private static long sum(long... numbers) {

@@ -37,6 +37,16 @@ final class Makers {
         return q;
     }
 
+    /** Four paused cores whose queues hold 32 tasks, all that there is place for. */
+    static HardwareTaskQueue crowded() {
+        HardwareTaskQueue q = of("queue 4 8 20;" + "task 9 1;".repeat(32));
+        for (int core = 0; core < 4; core++) {
+            q.pause(core, true);
+        }
+        q.run(1);
+        return q;
+    }
+
     /** A new queue with this setup text. */
     static HardwareTaskQueue of(String text) {
         HardwareTaskQueue q = new HardwareTaskQueue();

@@ -9,17 +9,23 @@ import java.util.TreeSet;
 
 /** The class has the document's face, and nothing else of it can be seen from outside. */
 public final class FaceTest {
+    private static final String INDEX = " IndexOutOfBoundsException";
+    private static final String ARGUMENT = " IllegalArgumentException";
+    private static final String STATE = " IllegalStateException";
+    /** Each method with the exceptions that it declares, in the document's order. */
     private static final String[] METHODS = {
-        "append(int,int,int,int,int):int", "load(int):int", "errorOffset():int",
+        "append(int,int,int,int,int):int", "load(int):int" + ARGUMENT, "errorOffset():int",
         "coreCount():int", "taskCount():int", "fenceCount():int", "clock():int",
-        "state(int):int", "counter(int):int", "priority(int):int", "coreOf(int):int",
-        "doneAt(int):int", "isOpen(int):boolean", "queueLength(int):int",
-        "queued(int,int):int", "running(int):int", "remaining(int):int", "busy(int):int",
-        "steals(int):int", "isPaused(int):boolean", "finished():int", "criticalPath():int",
-        "finishTime(int):int", "timeOn(int,int):int", "run(int):int",
-        "submit(int,int,int):int", "depend(int,int):int", "cancel(int):int",
-        "setPriority(int,int):int", "pause(int,boolean):boolean", "undo():int",
-        "checksum():long"};
+        "state(int):int" + INDEX, "counter(int):int" + INDEX, "priority(int):int" + INDEX,
+        "coreOf(int):int" + INDEX, "doneAt(int):int" + INDEX, "isOpen(int):boolean" + INDEX,
+        "queueLength(int):int" + INDEX, "queued(int,int):int" + INDEX, "running(int):int" + INDEX,
+        "remaining(int):int" + INDEX, "busy(int):int" + INDEX, "steals(int):int" + INDEX,
+        "isPaused(int):boolean" + INDEX, "finished():int", "criticalPath():int",
+        "finishTime(int):int" + ARGUMENT, "timeOn(int,int):int" + ARGUMENT + STATE,
+        "run(int):int" + ARGUMENT + STATE, "submit(int,int,int):int" + INDEX + ARGUMENT + STATE,
+        "depend(int,int):int" + INDEX + ARGUMENT + STATE, "cancel(int):int" + INDEX + STATE,
+        "setPriority(int,int):int" + INDEX + ARGUMENT, "pause(int,boolean):boolean" + INDEX,
+        "undo():int", "checksum():long"};
     private static final String[] CONSTANTS = {
         "SYNTAX_ERROR=-2", "OUT_OF_RANGE=-3", "TOO_MANY=-4", "TOO_DEEP=-5", "WAITING=0",
         "READY=1", "QUEUED=2", "RUNNING=3", "DONE=4", "CANCELLED=5"};
@@ -47,8 +53,12 @@ public final class FaceTest {
                 for (Class<?> parameter : method.getParameterTypes()) {
                     parameters.add(parameter.getName());
                 }
+                StringBuilder declared = new StringBuilder();
+                for (Class<?> exception : method.getExceptionTypes()) {
+                    declared.append(' ').append(exception.getSimpleName());
+                }
                 found.add(method.getName() + "(" + String.join(",", parameters) + "):"
-                        + method.getReturnType().getName());
+                        + method.getReturnType().getName() + declared);
                 Check.equal(method + " is public", Modifier.isPublic(method.getModifiers()), true);
             }
         }

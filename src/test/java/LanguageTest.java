@@ -1,9 +1,12 @@
 import java.io.IOException;
+import java.lang.reflect.Field;
+import java.lang.reflect.Method;
+import java.lang.reflect.Modifier;
 import java.nio.file.Files;
 import java.nio.file.Path;
 import java.util.Set;
 
-/** Some of the rules of LANGUAGE.md that can be seen line by line. */
+/** Some of the rules of LANGUAGE.md: those that can be seen line by line or by reflection. */
 public final class LanguageTest {
     private static final String PROGRAM = "src/main/java/HardwareTaskQueue.java";
     private static final Set<String> IMPORTS = Set.of("import java.util.Arrays;",
@@ -12,8 +15,43 @@ public final class LanguageTest {
             + "|protected|double|float|Random|Thread|equals|hashCode|toString|while \\(true)\\b"
             + "|->|::|Exact\\b|System\\.(?!arraycopy)).*";
     private static final int LONGEST_METHOD = 60;
+    private static final int MOST_PARAMETERS = 7;
+    private static final int MOST_FIELDS = 20;
+    private static final int MOST_CLASSES = 12;
 
     public static void main(String[] args) throws IOException {
+        lines();
+        Class<?> type = HardwareTaskQueue.class;
+        Class<?>[] inside = type.getDeclaredClasses();
+        Check.equal("rule 11, classes", inside.length + 1 <= MOST_CLASSES, true);
+        members(type);
+        for (Class<?> inner : inside) {
+            int modifiers = inner.getModifiers();
+            Check.equal("rule 1, " + inner + " is static and not for others",
+                    Modifier.isStatic(modifiers) && !Modifier.isPublic(modifiers), true);
+            members(inner);
+        }
+        Check.end();
+    }
+
+    private static void members(Class<?> type) {
+        int fields = 0;
+        for (Field field : type.getDeclaredFields()) {
+            if (Modifier.isStatic(field.getModifiers())) {
+                Check.equal("rule 5, " + field + " is final",
+                        Modifier.isFinal(field.getModifiers()), true);
+            } else {
+                fields++;
+            }
+        }
+        Check.equal("rule 11, fields of " + type, fields <= MOST_FIELDS, true);
+        for (Method method : type.getDeclaredMethods()) {
+            Check.equal("rule 11, parameters of " + method,
+                    method.getParameterCount() <= MOST_PARAMETERS, true);
+        }
+    }
+
+    private static void lines() throws IOException {
         int number = 0;
         int opened = 0;
         for (String line : Files.readAllLines(Path.of(PROGRAM))) {
@@ -37,6 +75,5 @@ public final class LanguageTest {
                         number - opened <= LONGEST_METHOD, true);
             }
         }
-        Check.end();
     }
 }
